@@ -26,6 +26,7 @@ public final class PromiseTest {
         runOrder();
         runPushesOut();
         runKinds();
+        runFull();
         answer();
         answerOnce();
         answerAboveNumber();
@@ -34,6 +35,7 @@ public final class PromiseTest {
         chain();
         chainOrder();
         chainIneligible();
+        chainFull();
         appeal();
         appealBehindRound();
         over();
@@ -371,6 +373,54 @@ public final class PromiseTest {
         at(y, moved, 0, 1);
     }
 
+    /** As many schools, kinds, seats, pupils and wishes as there may be. */
+    private static SeatOffice fullOffice(int seats, int band, int flags, int... list) {
+        SeatOffice x = new SeatOffice();
+        for (int s = 0; s < 6; s++) {
+            x.school();
+            for (int k = 0; k < 3; k++) {
+                x.kind(s, seats, band, band, band);
+            }
+        }
+        for (int p = 0; p < 20; p++) {
+            pupil(x, flags, list);
+        }
+        return x;
+    }
+
+    private static void runFull() {
+        Check.part("promise 7, full");
+        SeatOffice x = fullOffice(6, 0, 0, 5, 0, 4, 1);
+        Check.is("run()", x.run(), 20);
+        for (int p = 0; p < 18; p++) {
+            at(x, p, 5, p / 6);
+        }
+        at(x, 18, 0, 0);
+        at(x, 19, 0, 0);
+        Check.is("look(3)", x.look(3), 22);
+        Check.is("blocking(-1)", x.blocking(-1), 0);
+        Check.is("last", x.held(5, 2, 2), 17);
+        SeatOffice y = fullOffice(0, 0, 0, 5, 0, 4, 1);
+        Check.is("run() without seats", y.run(), 0);
+        Check.is("everybody asks everywhere", y.look(3), 80);
+        Check.is("why", y.why(19, 5), 4);
+        Check.is("why", y.why(19, 3), 1);
+        Check.is("blocking(-1)", y.blocking(-1), 0);
+        SeatOffice z = fullOffice(6, 1, 0, 5, 0, 4, 1);
+        Check.is("run() with nobody eligible", z.run(), 0);
+        Check.is("everybody asks everywhere", z.look(3), 80);
+        Check.is("why", z.why(19, 5), 2);
+        SeatOffice d = fullOffice(6, 0, 0, 5);
+        for (int p = 0; p < 20; p++) {
+            Check.yes("draw", d.draw(p, 5, 19 - p));
+        }
+        Check.denied("draw of pupil 20", d, () -> d.draw(20, 5, 500));
+        Check.is("run() with numbers turned round", d.run(), 18);
+        at(d, 19, 5, 0);
+        at(d, 2, 5, 2);
+        at(d, 1, NONE, NONE);
+    }
+
     // ---- 8
 
     private static void answer() {
@@ -649,6 +699,24 @@ public final class PromiseTest {
         at(y, q, 0, NONE);
     }
 
+    private static void chainFull() {
+        Check.part("promise 10, full");
+        SeatOffice x = fullOffice(6, 1, 0, 5, 4, 3, 2);
+        x.run();
+        for (int p = 0; p < 20; p++) {
+            x.appeal(p, 1);
+            x.stay(p, 4);
+        }
+        Check.is("all are blocking", x.blocking(-1), 80);
+        Check.is("the last pair", x.blocking(79), 8 * 19 + 2);
+        Check.is("18 move up four places, two up three", x.chain(), 78);
+        at(x, 0, 5, 0);
+        at(x, 17, 5, 2);
+        at(x, 19, 4, 0);
+        Check.is("placed", x.look(4), 20);
+        Check.is("chain() again", x.chain(), 0);
+    }
+
     // ---- 11
 
     private static void appeal() {
@@ -847,6 +915,17 @@ public final class PromiseTest {
         x.appeal(4, 2);
         Check.is("by what is now", x.held(0, 0, 2), 4);
         Check.is("holders", x.held(0, 0, 1), 3);
+        SeatOffice y = new SeatOffice();
+        y.school();
+        y.kind(0, 2, 8, 0, -1);
+        latePupil(y, 0, 0);
+        latePupil(y, 8, 0);
+        int least = pupil(y, 8, 0);
+        y.draw(least, 0, 0);
+        y.run();
+        Check.is("of late ones the lesser band holds", y.held(0, 0, 2), 1);
+        y.answer(1, LEAVE);
+        Check.is("the first of all is the last, being alone", y.held(0, 0, 2), least);
     }
 
     // ---- 15
