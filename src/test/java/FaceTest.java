@@ -10,21 +10,21 @@ public final class FaceTest {
     private static final String[] FACE = {
         "NONE int",
         "SeatOffice()",
-        "school() int",
-        "kind(int,int,int,int,int) int",
-        "pupil(int,boolean) int",
-        "wish(int,int) int",
+        "school() int throws IllegalStateException",
+        "kind(int,int,int,int,int) int throws IllegalArgumentException,IllegalStateException",
+        "pupil(int,boolean) int throws IllegalArgumentException,IllegalStateException",
+        "wish(int,int) int throws IllegalArgumentException,IllegalStateException",
         "draw(int,int,int) boolean",
-        "run() int",
+        "run() int throws IllegalStateException",
         "answer(int,int) boolean",
         "stay(int,int) boolean",
-        "chain() int",
+        "chain() int throws IllegalStateException",
         "appeal(int,int) boolean",
-        "over(int,int) boolean",
+        "over(int,int) boolean throws IllegalArgumentException,IllegalStateException",
         "seat(int,int) int",
         "held(int,int,int) int",
         "blocking(int) int",
-        "envies(int,int) boolean",
+        "envies(int,int) boolean throws IllegalArgumentException",
         "why(int,int) int",
         "look(int) int",
     };
@@ -32,11 +32,13 @@ public final class FaceTest {
     public static void main(String[] args) {
         Check.part("face");
         Set<String> due = new TreeSet<>(Set.of(FACE));
-        Check.same("the face", due.toString(), visible().toString());
+        Check.text("the face", visible().toString(), due.toString());
         int modifiers = SeatOffice.class.getModifiers();
         Check.yes("public final class", Modifier.isPublic(modifiers) && Modifier.isFinal(modifiers));
         Check.is("NONE", SeatOffice.NONE, -1);
         Check.is("private methods with a public one's name", sharedNames(), 0);
+        Check.is("classes inside that are not static, or public", looseClasses(), 0);
+        Check.is("static fields that are not final", loosePlaces(), 0);
         Check.end();
     }
 
@@ -54,8 +56,9 @@ public final class FaceTest {
         }
         for (Method m : SeatOffice.class.getDeclaredMethods()) {
             if (!Modifier.isPrivate(m.getModifiers())) {
+                String thrown = names(m.getExceptionTypes());
                 all.add(m.getName() + "(" + names(m.getParameterTypes()) + ") "
-                        + m.getReturnType().getSimpleName());
+                        + m.getReturnType().getSimpleName() + (thrown.isEmpty() ? "" : " throws " + thrown));
             }
         }
         return all;
@@ -79,5 +82,23 @@ public final class FaceTest {
             }
         }
         return shared;
+    }
+
+    private static int looseClasses() {
+        int loose = 0;
+        for (Class<?> inside : SeatOffice.class.getDeclaredClasses()) {
+            int modifiers = inside.getModifiers();
+            boolean hidden = !Modifier.isPublic(modifiers) && !Modifier.isProtected(modifiers);
+            loose += hidden && Modifier.isStatic(modifiers) ? 0 : 1;
+        }
+        return loose;
+    }
+
+    private static int loosePlaces() {
+        int loose = 0;
+        for (Field f : SeatOffice.class.getDeclaredFields()) {
+            loose += Modifier.isStatic(f.getModifiers()) && !Modifier.isFinal(f.getModifiers()) ? 1 : 0;
+        }
+        return loose;
     }
 }

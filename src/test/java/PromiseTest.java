@@ -113,11 +113,11 @@ public final class PromiseTest {
             Check.is("school()", x.school(), s);
             Check.is("held of a new school", x.held(s, 0, 0), NONE);
         }
-        Check.badState("a seventh school()", x, x::school);
+        Check.badState("a seventh school()", x::school);
         Check.is("look(0)", x.look(0), 6);
         SeatOffice y = office(1);
         y.run();
-        Check.badState("school() behind the round", y, y::school);
+        Check.badState("school() behind the round", y::school);
         Check.is("look(0)", y.look(0), 1);
     }
 
@@ -127,17 +127,17 @@ public final class PromiseTest {
         Check.part("promise 3");
         SeatOffice x = new SeatOffice();
         x.school();
-        Check.badArgument("kind of no school", x, () -> x.kind(1, 1, 0, 0, 0));
-        Check.badArgument("kind of school -1", x, () -> x.kind(-1, 1, 0, 0, 0));
-        Check.badArgument("kind of school 6", x, () -> x.kind(6, 1, 0, 0, 0));
-        Check.badArgument("-1 seats", x, () -> x.kind(0, -1, 0, 0, 0));
-        Check.badArgument("7 seats", x, () -> x.kind(0, 7, 0, 0, 0));
-        Check.badArgument("band 0 is 16", x, () -> x.kind(0, 1, 16, 0, 0));
-        Check.badArgument("band 1 is 16", x, () -> x.kind(0, 1, 0, 16, 0));
-        Check.badArgument("band 2 is 16", x, () -> x.kind(0, 1, 0, 0, 16));
-        Check.badArgument("16 behind a band that is none", x, () -> x.kind(0, 1, -1, 16, -1));
-        Check.badArgument("16 behind two that are none", x, () -> x.kind(0, 1, -1, -1, 16));
-        Check.badArgument("the greatest int", x, () -> x.kind(0, 1, 0, 0, Integer.MAX_VALUE));
+        Check.badArgument("kind of no school", () -> x.kind(1, 1, 0, 0, 0));
+        Check.badArgument("kind of school -1", () -> x.kind(-1, 1, 0, 0, 0));
+        Check.badArgument("kind of school 6", () -> x.kind(6, 1, 0, 0, 0));
+        Check.badArgument("-1 seats", () -> x.kind(0, -1, 0, 0, 0));
+        Check.badArgument("7 seats", () -> x.kind(0, 7, 0, 0, 0));
+        Check.badArgument("band 0 is 16", () -> x.kind(0, 1, 16, 0, 0));
+        Check.badArgument("band 1 is 16", () -> x.kind(0, 1, 0, 16, 0));
+        Check.badArgument("band 2 is 16", () -> x.kind(0, 1, 0, 0, 16));
+        Check.badArgument("16 behind a band that is none", () -> x.kind(0, 1, -1, 16, -1));
+        Check.badArgument("16 behind two that are none", () -> x.kind(0, 1, -1, -1, 16));
+        Check.badArgument("the greatest int", () -> x.kind(0, 1, 0, 0, Integer.MAX_VALUE));
         Check.is("kind with 0 seats", x.kind(0, 0, 15, 15, 15), 0);
         Check.is("kind with 6 seats", x.kind(0, 6, -1, Integer.MIN_VALUE, -1), 1);
         x.school();
@@ -147,13 +147,13 @@ public final class PromiseTest {
         Check.is("seats", x.held(0, 1, 0), 6);
         Check.is("seats", x.held(0, 2, 0), 3);
         Check.is("seats", x.held(1, 0, 0), 2);
-        Check.badState("a fourth kind", x, () -> x.kind(0, 1, 0, 0, 0));
-        Check.badArgument("a fourth kind with 7 seats", x, () -> x.kind(0, 7, 0, 0, 0));
-        Check.badArgument("a fourth kind with band 16", x, () -> x.kind(0, 1, 0, 0, 16));
+        Check.badState("a fourth kind", () -> x.kind(0, 1, 0, 0, 0));
+        Check.badArgument("a fourth kind with 7 seats", () -> x.kind(0, 7, 0, 0, 0));
+        Check.badArgument("a fourth kind with band 16", () -> x.kind(0, 1, 0, 0, 16));
         x.run();
-        Check.badState("kind behind the round", x, () -> x.kind(1, 1, 0, 0, 0));
-        Check.badArgument("kind of no school behind the round", x, () -> x.kind(2, 1, 0, 0, 0));
-        Check.badArgument("kind with 7 seats behind the round", x, () -> x.kind(1, 7, 0, 0, 0));
+        Check.badState("kind behind the round", () -> x.kind(1, 1, 0, 0, 0));
+        Check.badArgument("kind of no school behind the round", () -> x.kind(2, 1, 0, 0, 0));
+        Check.badArgument("kind with 7 seats behind the round", () -> x.kind(1, 7, 0, 0, 0));
     }
 
     private static void kindBands() {
@@ -184,8 +184,8 @@ public final class PromiseTest {
     private static void pupil() {
         Check.part("promise 4");
         SeatOffice x = office(1);
-        Check.badArgument("flags -1", x, () -> x.pupil(-1, false));
-        Check.badArgument("flags 16", x, () -> x.pupil(16, true));
+        Check.badArgument("flags -1", () -> x.pupil(-1, false));
+        Check.badArgument("flags 16", () -> x.pupil(16, true));
         Check.is("pupil(0, false)", x.pupil(0, false), 0);
         Check.is("pupil(15, true)", x.pupil(15, true), 1);
         Check.is("flags", x.seat(0, FLAGS), 0);
@@ -195,13 +195,13 @@ public final class PromiseTest {
             Check.is("pupil(1, false)", x.pupil(1, false), p);
         }
         Check.is("a list that begins", x.wish(19, 0), 1);
-        Check.badState("a 21st pupil", x, () -> x.pupil(0, false));
-        Check.badArgument("a 21st pupil with flags 16", x, () -> x.pupil(16, false));
+        Check.badState("a 21st pupil", () -> x.pupil(0, false));
+        Check.badArgument("a 21st pupil with flags 16", () -> x.pupil(16, false));
         Check.is("look(1)", x.look(1), 20);
         SeatOffice y = office(1);
         y.run();
-        Check.badState("pupil behind the round", y, () -> y.pupil(0, false));
-        Check.badArgument("flags -1 behind the round", y, () -> y.pupil(-1, false));
+        Check.badState("pupil behind the round", () -> y.pupil(0, false));
+        Check.badArgument("flags -1 behind the round", () -> y.pupil(-1, false));
     }
 
     // ---- 5
@@ -210,28 +210,28 @@ public final class PromiseTest {
         Check.part("promise 5");
         SeatOffice x = office(1, 1, 1, 1, 1);
         int p = x.pupil(0, false);
-        Check.badArgument("wish of no pupil", x, () -> x.wish(1, 0));
-        Check.badArgument("wish of pupil -1", x, () -> x.wish(-1, 0));
-        Check.badArgument("wish of pupil 20", x, () -> x.wish(20, 0));
-        Check.badArgument("wish for no school", x, () -> x.wish(p, 5));
-        Check.badArgument("wish for school -1", x, () -> x.wish(p, -1));
+        Check.badArgument("wish of no pupil", () -> x.wish(1, 0));
+        Check.badArgument("wish of pupil -1", () -> x.wish(-1, 0));
+        Check.badArgument("wish of pupil 20", () -> x.wish(20, 0));
+        Check.badArgument("wish for no school", () -> x.wish(p, 5));
+        Check.badArgument("wish for school -1", () -> x.wish(p, -1));
         Check.is("first wish", x.wish(p, 3), 1);
-        Check.badArgument("the same again", x, () -> x.wish(p, 3));
+        Check.badArgument("the same again", () -> x.wish(p, 3));
         Check.is("second wish", x.wish(p, 0), 2);
         Check.is("third wish", x.wish(p, 2), 3);
         Check.is("fourth wish", x.wish(p, 1), 4);
-        Check.badState("a fifth wish", x, () -> x.wish(p, 4));
-        Check.badArgument("one that is there, the list being full", x, () -> x.wish(p, 1));
-        Check.badArgument("no school, the list being full", x, () -> x.wish(p, 5));
+        Check.badState("a fifth wish", () -> x.wish(p, 4));
+        Check.badArgument("one that is there, the list being full", () -> x.wish(p, 1));
+        Check.badArgument("no school, the list being full", () -> x.wish(p, 5));
         Check.is("not in the list", x.why(p, 4), 1);
         int q = x.pupil(0, false);
         Check.is("another pupil's first wish", x.wish(q, 3), 1);
         x.run();
         at(x, p, 3, 0);
         at(x, q, NONE, NONE);
-        Check.badState("wish behind the round", x, () -> x.wish(q, 0));
-        Check.badArgument("one that is there behind the round", x, () -> x.wish(q, 3));
-        Check.badArgument("no pupil behind the round", x, () -> x.wish(2, 0));
+        Check.badState("wish behind the round", () -> x.wish(q, 0));
+        Check.badArgument("one that is there behind the round", () -> x.wish(q, 3));
+        Check.badArgument("no pupil behind the round", () -> x.wish(2, 0));
     }
 
     // ---- 6
@@ -241,24 +241,24 @@ public final class PromiseTest {
         SeatOffice x = office(1, 1);
         pupil(x, 0, 0);
         pupil(x, 0, 0);
-        Check.denied("draw of no pupil", x, () -> x.draw(2, 0, 1));
-        Check.denied("draw of pupil -1", x, () -> x.draw(-1, 0, 1));
-        Check.denied("draw at no school", x, () -> x.draw(0, 2, 1));
-        Check.denied("draw at school -1", x, () -> x.draw(0, -1, 1));
-        Check.denied("draw of -1", x, () -> x.draw(0, 0, -1));
-        Check.denied("draw of 1000", x, () -> x.draw(0, 0, 1000));
-        Check.denied("draw of its own first number", x, () -> x.draw(1, 0, 1001));
+        Check.denied("draw of no pupil", () -> x.draw(2, 0, 1));
+        Check.denied("draw of pupil -1", () -> x.draw(-1, 0, 1));
+        Check.denied("draw at no school", () -> x.draw(0, 2, 1));
+        Check.denied("draw at school -1", () -> x.draw(0, -1, 1));
+        Check.denied("draw of -1", () -> x.draw(0, 0, -1));
+        Check.denied("draw of 1000", () -> x.draw(0, 0, 1000));
+        Check.denied("draw of its own first number", () -> x.draw(1, 0, 1001));
         Check.yes("draw of 0", x.draw(0, 0, 0));
         Check.yes("draw of its own again", x.draw(0, 0, 0));
-        Check.denied("draw of another's", x, () -> x.draw(1, 0, 0));
+        Check.denied("draw of another's", () -> x.draw(1, 0, 0));
         Check.yes("the same at another school, which is not in its list", x.draw(1, 1, 0));
         Check.yes("draw of 999", x.draw(0, 0, 999));
         Check.yes("draw of one that is free again", x.draw(1, 0, 0));
-        Check.denied("draw of 999 by another", x, () -> x.draw(1, 0, 999));
+        Check.denied("draw of 999 by another", () -> x.draw(1, 0, 999));
         x.run();
         at(x, 1, 0, 0);
-        Check.denied("draw behind the round", x, () -> x.draw(0, 0, 5));
-        Check.denied("its own again behind the round", x, () -> x.draw(0, 0, 999));
+        Check.denied("draw behind the round", () -> x.draw(0, 0, 5));
+        Check.denied("its own again behind the round", () -> x.draw(0, 0, 999));
     }
 
     private static void drawDecides() {
@@ -290,7 +290,7 @@ public final class PromiseTest {
         Check.part("promise 7, nobody");
         SeatOffice x = new SeatOffice();
         Check.is("run() of nobody", x.run(), 0);
-        Check.badState("a second run()", x, x::run);
+        Check.badState("a second run()", x::run);
         SeatOffice y = office(0, 2);
         y.school();
         int p = pupil(y, 0, 0, 2);
@@ -299,7 +299,7 @@ public final class PromiseTest {
         at(y, p, NONE, NONE);
         Check.is("asked in vain", y.seat(p, ASKED), 2);
         Check.is("asked nobody", y.seat(q, ASKED), 0);
-        Check.badState("a second run()", y, y::run);
+        Check.badState("a second run()", y::run);
     }
 
     private static void runOrder() {
@@ -414,7 +414,7 @@ public final class PromiseTest {
         for (int p = 0; p < 20; p++) {
             Check.yes("draw", d.draw(p, 5, 19 - p));
         }
-        Check.denied("draw of pupil 20", d, () -> d.draw(20, 5, 500));
+        Check.denied("draw of pupil 20", () -> d.draw(20, 5, 500));
         Check.is("run() with numbers turned round", d.run(), 18);
         at(d, 19, 5, 0);
         at(d, 2, 5, 2);
@@ -431,36 +431,36 @@ public final class PromiseTest {
         int r = pupil(x, 0, 1);
         for (int what = 0; what < 3; what++) {
             int asked = what;
-            Check.denied("answer before the round", x, () -> x.answer(p, asked));
+            Check.denied("answer before the round", () -> x.answer(p, asked));
         }
         x.run();
-        Check.denied("answer of no pupil", x, () -> x.answer(3, LEAVE));
-        Check.denied("answer of pupil -1", x, () -> x.answer(-1, LEAVE));
-        Check.denied("answer -1", x, () -> x.answer(p, -1));
-        Check.denied("answer 3", x, () -> x.answer(p, 3));
-        Check.denied("accept without a seat", x, () -> x.answer(q, ACCEPT));
-        Check.denied("decline without a seat", x, () -> x.answer(q, DECLINE));
+        Check.denied("answer of no pupil", () -> x.answer(3, LEAVE));
+        Check.denied("answer of pupil -1", () -> x.answer(-1, LEAVE));
+        Check.denied("answer -1", () -> x.answer(p, -1));
+        Check.denied("answer 3", () -> x.answer(p, 3));
+        Check.denied("accept without a seat", () -> x.answer(q, ACCEPT));
+        Check.denied("decline without a seat", () -> x.answer(q, DECLINE));
         Check.yes("leave without a seat", x.answer(q, LEAVE));
         Check.is("answered", x.seat(q, ANSWERED), 3);
         Check.yes("accept", x.answer(p, ACCEPT));
         at(x, p, 0, 0);
         Check.is("answered", x.seat(p, ANSWERED), 1);
-        Check.denied("accept again", x, () -> x.answer(p, ACCEPT));
-        Check.denied("decline behind accepting", x, () -> x.answer(p, DECLINE));
+        Check.denied("accept again", () -> x.answer(p, ACCEPT));
+        Check.denied("decline behind accepting", () -> x.answer(p, DECLINE));
         Check.yes("leave behind accepting", x.answer(p, LEAVE));
         Check.is("answered", x.seat(p, ANSWERED), 3);
         at(x, p, NONE, NONE);
         Check.is("holders", x.held(0, 0, 1), 0);
         for (int what = 0; what < 3; what++) {
             int asked = what;
-            Check.denied("answer of one that has left", x, () -> x.answer(p, asked));
+            Check.denied("answer of one that has left", () -> x.answer(p, asked));
         }
         Check.yes("decline", x.answer(r, DECLINE));
         at(x, r, NONE, NONE);
         Check.is("answered", x.seat(r, ANSWERED), 2);
         Check.is("holders", x.held(1, 0, 1), 0);
-        Check.denied("decline again", x, () -> x.answer(r, DECLINE));
-        Check.denied("accept behind declining", x, () -> x.answer(r, ACCEPT));
+        Check.denied("decline again", () -> x.answer(r, DECLINE));
+        Check.denied("accept behind declining", () -> x.answer(r, ACCEPT));
         Check.yes("leave behind declining", x.answer(r, LEAVE));
         Check.is("answered", x.seat(r, ANSWERED), 3);
     }
@@ -477,15 +477,15 @@ public final class PromiseTest {
         Check.is("chain()", x.chain(), 1);
         at(x, q, 0, 0);
         Check.is("answered before it moved", x.seat(q, ANSWERED), 1);
-        Check.denied("accept with another seat", x, () -> x.answer(q, ACCEPT));
-        Check.denied("decline with another seat", x, () -> x.answer(q, DECLINE));
+        Check.denied("accept with another seat", () -> x.answer(q, ACCEPT));
+        Check.denied("decline with another seat", () -> x.answer(q, DECLINE));
         Check.yes("leave", x.answer(q, LEAVE));
         x.stay(p, 1);
         Check.is("chain() behind declining", x.chain(), 1);
         at(x, p, 0, 0);
         Check.is("declined, whatever seat came since", x.seat(p, ANSWERED), 2);
-        Check.denied("accept behind declining", x, () -> x.answer(p, ACCEPT));
-        Check.denied("decline a second seat", x, () -> x.answer(p, DECLINE));
+        Check.denied("accept behind declining", () -> x.answer(p, ACCEPT));
+        Check.denied("decline a second seat", () -> x.answer(p, DECLINE));
     }
 
     private static void answerAboveNumber() {
@@ -503,7 +503,7 @@ public final class PromiseTest {
         at(x, q, 1, NONE);
         at(x, p, 0, 0);
         x.over(r, 0);
-        Check.denied("accept behind declining", x, () -> x.answer(r, ACCEPT));
+        Check.denied("accept behind declining", () -> x.answer(r, ACCEPT));
         Check.yes("leave above number", x.answer(r, LEAVE));
         at(x, r, NONE, NONE);
     }
@@ -515,16 +515,16 @@ public final class PromiseTest {
         SeatOffice x = office(1, 1);
         int p = pupil(x, 0, 0);
         int q = pupil(x, 0, 0, 1);
-        Check.denied("stay before the round", x, () -> x.stay(p, 1));
+        Check.denied("stay before the round", () -> x.stay(p, 1));
         x.run();
         Check.is("stays at first", x.seat(q, STAYS), 0);
-        Check.denied("stay of no pupil", x, () -> x.stay(2, 1));
-        Check.denied("stay of pupil -1", x, () -> x.stay(-1, 1));
-        Check.denied("stay to -1", x, () -> x.stay(q, -1));
-        Check.denied("stay to 5", x, () -> x.stay(q, 5));
+        Check.denied("stay of no pupil", () -> x.stay(2, 1));
+        Check.denied("stay of pupil -1", () -> x.stay(-1, 1));
+        Check.denied("stay to -1", () -> x.stay(q, -1));
+        Check.denied("stay to 5", () -> x.stay(q, 5));
         Check.yes("stay to 4 of a list of 2", x.stay(q, 4));
         Check.is("stays", x.seat(q, STAYS), 4);
-        Check.denied("stay to 5 behind another", x, () -> x.stay(q, 5));
+        Check.denied("stay to 5 behind another", () -> x.stay(q, 5));
         Check.yes("a later stay", x.stay(q, 2));
         Check.is("stays", x.seat(q, STAYS), 2);
         Check.yes("stay to 0", x.stay(q, 0));
@@ -542,8 +542,8 @@ public final class PromiseTest {
         Check.is("stays", x.seat(p, STAYS), 2);
         x.answer(p, LEAVE);
         Check.is("stays behind leaving", x.seat(p, STAYS), 0);
-        Check.denied("stay behind leaving", x, () -> x.stay(p, 1));
-        Check.denied("stay to 0 behind leaving", x, () -> x.stay(p, 0));
+        Check.denied("stay behind leaving", () -> x.stay(p, 1));
+        Check.denied("stay to 0 behind leaving", () -> x.stay(p, 0));
     }
 
     private static void stayPlaces() {
@@ -588,7 +588,7 @@ public final class PromiseTest {
         pupil(x, 0, 0, 1);
         pupil(x, 0, 1, 2);
         pupil(x, 0, 2);
-        Check.badState("chain() before the round", x, x::chain);
+        Check.badState("chain() before the round", x::chain);
         Check.is("run()", x.run(), 3);
         Check.is("nobody waits", x.chain(), 0);
         for (int p = 1; p < 4; p++) {
@@ -726,10 +726,10 @@ public final class PromiseTest {
         x.kind(0, 1, 1, -1, -1);
         int p = pupil(x, 1, 0);
         int q = pupil(x, 0, 0);
-        Check.denied("appeal of no pupil", x, () -> x.appeal(2, 0));
-        Check.denied("appeal of pupil -1", x, () -> x.appeal(-1, 0));
-        Check.denied("flags -1", x, () -> x.appeal(p, -1));
-        Check.denied("flags 16", x, () -> x.appeal(p, 16));
+        Check.denied("appeal of no pupil", () -> x.appeal(2, 0));
+        Check.denied("appeal of pupil -1", () -> x.appeal(-1, 0));
+        Check.denied("flags -1", () -> x.appeal(p, -1));
+        Check.denied("flags 16", () -> x.appeal(p, 16));
         Check.yes("appeal before the round", x.appeal(p, 0));
         Check.yes("appeal before the round", x.appeal(q, 15));
         Check.is("flags", x.seat(p, FLAGS), 0);
@@ -740,7 +740,7 @@ public final class PromiseTest {
         x.answer(p, LEAVE);
         Check.yes("appeal of one that has left", x.appeal(p, 9));
         Check.is("flags", x.seat(p, FLAGS), 9);
-        Check.denied("flags 16 behind the round", x, () -> x.appeal(p, 16));
+        Check.denied("flags 16 behind the round", () -> x.appeal(p, 16));
         Check.is("left", x.seat(p, ANSWERED), 3);
     }
 
@@ -770,27 +770,27 @@ public final class PromiseTest {
         SeatOffice x = office(1, 1, 1);
         int p = pupil(x, 0, 0, 1);
         int q = pupil(x, 0, 0);
-        Check.badState("over before the round", x, () -> x.over(p, 0) ? 1 : 0);
-        Check.badArgument("of no pupil before the round", x, () -> x.over(2, 0) ? 1 : 0);
-        Check.badArgument("not in its list before the round", x, () -> x.over(p, 2) ? 1 : 0);
+        Check.badState("over before the round", () -> x.over(p, 0) ? 1 : 0);
+        Check.badArgument("of no pupil before the round", () -> x.over(2, 0) ? 1 : 0);
+        Check.badArgument("not in its list before the round", () -> x.over(p, 2) ? 1 : 0);
         x.run();
-        Check.badArgument("over of no pupil", x, () -> x.over(2, 0) ? 1 : 0);
-        Check.badArgument("over of pupil -1", x, () -> x.over(-1, 0) ? 1 : 0);
-        Check.badArgument("a school that is not in its list", x, () -> x.over(q, 2) ? 1 : 0);
-        Check.badArgument("no school", x, () -> x.over(q, 3) ? 1 : 0);
-        Check.badArgument("school -1", x, () -> x.over(q, -1) ? 1 : 0);
-        Check.badArgument("one where it has a seat", x, () -> x.over(p, 0) ? 1 : 0);
+        Check.badArgument("over of no pupil", () -> x.over(2, 0) ? 1 : 0);
+        Check.badArgument("over of pupil -1", () -> x.over(-1, 0) ? 1 : 0);
+        Check.badArgument("a school that is not in its list", () -> x.over(q, 2) ? 1 : 0);
+        Check.badArgument("no school", () -> x.over(q, 3) ? 1 : 0);
+        Check.badArgument("school -1", () -> x.over(q, -1) ? 1 : 0);
+        Check.badArgument("one where it has a seat", () -> x.over(p, 0) ? 1 : 0);
         Check.yes("over", x.over(q, 0));
         at(x, q, 0, NONE);
-        Check.badArgument("one where it is above number", x, () -> x.over(q, 0) ? 1 : 0);
+        Check.badArgument("one where it is above number", () -> x.over(q, 0) ? 1 : 0);
         Check.is("placed", x.look(4), 2);
         Check.is("holders", x.held(0, 0, 1), 1);
         x.answer(q, DECLINE);
         Check.yes("over behind declining", x.over(q, 0));
         at(x, q, 0, NONE);
         x.answer(q, LEAVE);
-        Check.badState("over of one that has left", x, () -> x.over(q, 0) ? 1 : 0);
-        Check.badArgument("of one that has left, not in its list", x, () -> x.over(q, 1) ? 1 : 0);
+        Check.badState("over of one that has left", () -> x.over(q, 0) ? 1 : 0);
+        Check.badArgument("of one that has left, not in its list", () -> x.over(q, 1) ? 1 : 0);
     }
 
     private static void overFreesSeat() {
@@ -1005,22 +1005,22 @@ public final class PromiseTest {
         int b = pupil(x, 0, 0, 1);
         int c = pupil(x, 0, 2, 0);
         int d = pupil(x, 0, 1);
-        Check.badArgument("envies before the round", x, () -> x.envies(0, 1) ? 1 : 0);
+        Check.badArgument("envies before the round", () -> x.envies(0, 1) ? 1 : 0);
         x.draw(d, 0, 1);
         x.draw(b, 1, 5);
         x.run();
-        Check.badArgument("of no pupil", x, () -> x.envies(4, 0) ? 1 : 0);
-        Check.badArgument("of pupil -1", x, () -> x.envies(-1, 0) ? 1 : 0);
-        Check.badArgument("envies no pupil", x, () -> x.envies(0, 4) ? 1 : 0);
-        Check.badArgument("envies pupil -1", x, () -> x.envies(0, -1) ? 1 : 0);
-        Check.badArgument("envies one without a seat", x, () -> x.envies(0, d) ? 1 : 0);
-        Check.badArgument("envies oneself without a seat", x, () -> x.envies(d, d) ? 1 : 0);
+        Check.badArgument("of no pupil", () -> x.envies(4, 0) ? 1 : 0);
+        Check.badArgument("of pupil -1", () -> x.envies(-1, 0) ? 1 : 0);
+        Check.badArgument("envies no pupil", () -> x.envies(0, 4) ? 1 : 0);
+        Check.badArgument("envies pupil -1", () -> x.envies(0, -1) ? 1 : 0);
+        Check.badArgument("envies one without a seat", () -> x.envies(0, d) ? 1 : 0);
+        Check.badArgument("envies oneself without a seat", () -> x.envies(d, d) ? 1 : 0);
         Check.no("envies oneself", x.envies(0, 0));
         Check.no("it stands behind", x.envies(b, 0));
         Check.no("none below its own", x.envies(c, 0));
         Check.no("not in its list", x.envies(d, 0));
         x.over(0, 1);
-        Check.badArgument("envies one above number", x, () -> x.envies(b, 0) ? 1 : 0);
+        Check.badArgument("envies one above number", () -> x.envies(b, 0) ? 1 : 0);
         Check.no("of one above number at the same school", x.envies(0, b));
         x.stay(b, 1);
         x.chain();
