@@ -88,6 +88,9 @@ public final class SetupEdgeTest extends Story {
         story(schools(2), times(3, "kind 0 1 0 -1 -1"), "kind 0 1 0 -1 -1 = state; kind 0 0 -1 -1 -1 = state",
                 "kind 0 6 15 15 15 = state; kind 1 1 0 -1 -1 = 0");
         story(schools(6), times(3, "kind 5 1 0 -1 -1"), "kind 5 1 0 -1 -1 = state; kind 4 1 0 -1 -1 = 0");
+        story("school; kind 0 1 8 4 -1; kind 0 1 8 -1 -1; kind 0 2 12 -1 -1", pupils(1, "0"),
+                "kind 0 6 0 -1 -1 = state; held 0 2 0 = 2; why 0 0 = 2; run = 0; kind 0 6 0 -1 -1 = state",
+                "why 0 0 = 2; held 0 2 0 = 2");
     }
 
     private static void kindOfNoSchool() {
@@ -202,12 +205,14 @@ public final class SetupEdgeTest extends Story {
         story(times(20, "pupil 0"), "pupil 0 = state; pupil 15 late = state; look 1 = 20; pupil 0 = state",
                 "seat 20 5 = -1");
         story(full(1), "pupil 0 = state; look 1 = 20");
+        story(openSchools(1, 1), times(20, "pupil 0"), "wish 0 0; wish 19 0; draw 19 0 0; pupil 15 late = state",
+                "seat 19 5 = 0; run; seat 19 0 = 0; seat 0 0 = -1");
         each(outside(0, 15), times(20, "pupil 0"), "pupil # = argument; look 1 = 20");
     }
 
     private static void pupilRefused() {
         sentence("4: IllegalStateException behind the round");
-        for (int n : new int[] {0, 1, 19, 20}) {
+        for (int n : SOME_COUNTS) {
             story(times(n, "pupil 0"), "run = 0; pupil 0 = state; pupil 0 late = state; look 1 = " + n);
         }
         each(outside(0, 15), "run; pupil # = argument; pupil # late = argument; look 1 = 0");
@@ -228,11 +233,9 @@ public final class SetupEdgeTest extends Story {
         story(openSchools(6, 0), "pupil 0; wish 0 5 = 1; wish 0 0 = 2; wish 0 4 = 3; wish 0 2 = 4; run = 0",
                 "seat 0 2 = 4");
         String list = "pupil 0; wish 0 3; wish 0 1; wish 0 2; wish 0 0; ";
-        story("school; school; school; school; kind 0 1 0 -1 -1; kind 2 1 0 -1 -1", list, "run; seat 0 0 = 2",
-                "seat 0 2 = 3");
-        story("school; school; school; school; kind 0 1 0 -1 -1; kind 1 1 0 -1 -1", list, "run; seat 0 0 = 1",
-                "seat 0 2 = 2");
-        story("school; school; school; school; ", "kind 0 1 0 -1 -1", list, "run; seat 0 0 = 0; seat 0 2 = 4");
+        story(schools(4), "kind 0 1 0 -1 -1; kind 2 1 0 -1 -1", list, "run; seat 0 0 = 2; seat 0 2 = 3");
+        story(schools(4), "kind 0 1 0 -1 -1; kind 1 1 0 -1 -1", list, "run; seat 0 0 = 1; seat 0 2 = 2");
+        story(schools(4), "kind 0 1 0 -1 -1", list, "run; seat 0 0 = 0; seat 0 2 = 4");
         sentence("5: IllegalStateException if it has 4");
         story(schools(6), "pupil 0", times(4, "wish 0 #"), "wish 0 4 = state; wish 0 5 = state; why 0 4 = 1",
                 "why 0 5 = 1; pupil 0; wish 1 4 = 1");
@@ -241,7 +244,7 @@ public final class SetupEdgeTest extends Story {
 
     private static void wishOfNobody() {
         sentence("5: IllegalArgumentException if there is no such pupil");
-        for (int n : new int[] {0, 1, 19, 20}) {
+        for (int n : SOME_COUNTS) {
             each(outside(0, n - 1), "school", times(n, "pupil 0"), "wish # 0 = argument");
         }
         story("school", times(20, "pupil 0"), times(20, "wish # 0 = 1"));
@@ -283,7 +286,7 @@ public final class SetupEdgeTest extends Story {
 
     private static void drawOfNobody() {
         sentence("6: false if there is no such pupil or school");
-        for (int n : new int[] {0, 1, 20}) {
+        for (int n : SOME_COUNTS) {
             each(outside(0, n - 1), "school", times(n, "pupil 0"), "draw # 0 5 = false");
         }
         for (int n : range(0, 6)) {

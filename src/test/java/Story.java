@@ -11,9 +11,9 @@ abstract class Story {
 
     /** Ints below and above every range of the document; many wrap around to small ones. */
     private static final int[] FAR = {
-        Integer.MIN_VALUE, Integer.MIN_VALUE + 1, -(1 << 30), -(1 << 29), -65536, -1024, -256, -32, -21, -16, -8, -7,
-        -6, -5, -4, -3, -2, 1024, 4096, 65536, 1 << 24, 1 << 28, 1 << 29, 1 << 30, Integer.MAX_VALUE - 1,
-        Integer.MAX_VALUE,
+        Integer.MIN_VALUE, Integer.MIN_VALUE + 1, -(1 << 30), -(1 << 29), -65536, -65535, -1024, -256, -255, -32, -31,
+        -21, -16, -8, -7, -6, -5, -4, -3, -2, 1024, 1025, 4096, 65536, 65537, 1 << 24, 1 << 28, 1 << 29, 1 << 30,
+        (1 << 30) + 1, Integer.MAX_VALUE - 1, Integer.MAX_VALUE,
     };
 
     /** Behind a round pupil 0 holds the one seat of school 0, and pupil 1 has none. */
