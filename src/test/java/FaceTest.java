@@ -33,6 +33,7 @@ public final class FaceTest {
         Check.part("face");
         Set<String> due = new TreeSet<>(Set.of(FACE));
         Check.text("the face", visible().toString(), due.toString());
+        Check.text("the document's face", told().toString(), due.toString());
         int modifiers = SeatOffice.class.getModifiers();
         Check.yes("public final class", Modifier.isPublic(modifiers) && Modifier.isFinal(modifiers));
         Check.is("NONE", SeatOffice.NONE, -1);
@@ -40,6 +41,30 @@ public final class FaceTest {
         Check.is("classes inside that are not static, or public", looseClasses(), 0);
         Check.is("static fields that are not final", loosePlaces(), 0);
         Check.end();
+    }
+
+    /** The face as it stands in the document, without the names of the parameters. */
+    private static Set<String> told() {
+        Set<String> all = new TreeSet<>();
+        for (String line : Document.section("The public face")) {
+            if (line.startsWith("public ") && line.endsWith(";")) {
+                all.add(told(line.substring("public ".length(), line.length() - 1)));
+            }
+        }
+        return all;
+    }
+
+    private static String told(String member) {
+        int open = member.indexOf('(');
+        if (open < 0) {
+            return member.replaceAll("static final (\\w+) (\\w+) = .*", "$2 $1");
+        }
+        String[] head = member.substring(0, open).split(" ");
+        String name = head[head.length - 1];
+        String answer = head.length > 1 ? " " + head[0] : "";
+        int close = member.indexOf(')');
+        String types = member.substring(open + 1, close).replaceAll("(\\w+) \\w+", "$1").replace(", ", ",");
+        return name + "(" + types + ")" + answer + member.substring(close + 1).replace(", ", ",");
     }
 
     private static Set<String> visible() {

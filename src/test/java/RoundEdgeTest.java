@@ -1,18 +1,10 @@
 /** Promises 7 to 12 at their edges: each sentence that names one has a test of its own. */
 public final class RoundEdgeTest extends Story {
-    private static final int[][] ORDERS_OF_FOUR = {
-        {0, 1, 2, 3}, {0, 1, 3, 2}, {0, 2, 1, 3}, {0, 2, 3, 1}, {0, 3, 1, 2}, {0, 3, 2, 1},
-        {1, 0, 2, 3}, {1, 0, 3, 2}, {1, 2, 0, 3}, {1, 2, 3, 0}, {1, 3, 0, 2}, {1, 3, 2, 0},
-        {2, 0, 1, 3}, {2, 0, 3, 1}, {2, 1, 0, 3}, {2, 1, 3, 0}, {2, 3, 0, 1}, {2, 3, 1, 0},
-        {3, 0, 1, 2}, {3, 0, 2, 1}, {3, 1, 0, 2}, {3, 1, 2, 0}, {3, 2, 0, 1}, {3, 2, 1, 0},
-    };
-
     public static void main(String[] args) {
         roundOfNobody();
         roundOnce();
         roundOfAll();
         listUsedUp();
-        askingOrder();
         seatsOfKinds();
         lateStandsBehind();
         bandGoesBeforeNumber();
@@ -89,31 +81,6 @@ public final class RoundEdgeTest extends Story {
         story(openSchools(1, 1), pupils(1, "0"), "pupil 0; run = 1; seat 1 2 = 0; seat 0 2 = 1");
         sentence("7: a school that chooses nobody takes nobody from another");
         story("school; kind 0 1 0 -1 -1; school", pupils(2, "01"), "draw 1 0 0; run = 1; seat 1 0 = 0; seat 0 2 = 2");
-    }
-
-    private static void askingOrder() {
-        sentence("7: The end does not hang on who asks first");
-        String[] flags = {"1", "0", "3 late", "2"};
-        String[] lists = {"01", "012", "102", "01"};
-        int[] numbers = {7, 5, 0, 9};
-        int[] schools = {0, 1, 2, -1};
-        int[] asked = {1, 2, 3, 2};
-        for (int[] order : ORDERS_OF_FOUR) {
-            StringBuilder rows = new StringBuilder(openSchools(3, 1).replace("kind 0 1 0 -1 -1", "kind 0 1 1 0 -1"));
-            for (int p : range(0, 3)) {
-                int who = order[p];
-                rows.append("pupil ").append(flags[who]).append("; ");
-                for (char school : lists[who].toCharArray()) {
-                    rows.append("wish " + p + " " + school + "; draw " + p + " " + school + " " + numbers[who] + "; ");
-                }
-            }
-            rows.append("run = 3; ");
-            for (int p : range(0, 3)) {
-                rows.append("seat " + p + " 0 = " + schools[order[p]] + "; ");
-                rows.append("seat " + p + " 2 = " + asked[order[p]] + "; ");
-            }
-            story(rows.toString());
-        }
     }
 
     private static void seatsOfKinds() {
