@@ -85,6 +85,7 @@ public final class SentenceTest extends Story {
         story("school; kind 1 7 16 16 16 = argument; kind 0 -1 0 0 0 = argument; kind 0 6 15 15 15 = 0",
                 "kind 0 0 0 0 0 = 1",
                 "kind 0 1 0 0 0 = 2; kind 0 1 0 0 0 = state; kind 0 7 0 0 0 = argument; kind 0 1 0 0 16 = argument",
+                "kind 0 1 16 0 0 = argument; kind 0 1 0 16 0 = argument",
                 "kind 1 1 0 0 0 = argument; run; kind 0 1 0 0 0 = state; kind 0 1 -1 -1 16 = argument",
                 all("held 0 # 0", "6 0 1 -1"));
         story("school; run; kind 0 1 0 0 0 = state; kind 0 -1 0 0 0 = argument; kind -1 1 0 0 0 = argument",
@@ -128,6 +129,8 @@ public final class SentenceTest extends Story {
                 "draw 2 0 0 = true; draw 2 2 0 = false; draw 3 0 0 = false; run = 2; seat 2 0 = 0; seat 1 0 = 1",
                 "seat 0 0 = -1; draw 0 0 7 = false; draw 0 0 8 = false; stay 0 2; answer 2 2; answer 1 1; stay 1 2",
                 "chain = 2; seat 1 0 = 0; seat 0 0 = 1");
+        story(openSchools(1, 1), pupils(20, "0"), "draw 19 0 4 = true; draw 0 0 4 = false; draw 18 0 4 = false",
+                "draw 18 0 3 = true; draw 19 0 3 = false; run = 1; seat 18 0 = 0; answer 18 2; blocking -1 = 19");
         Document.quote("(The school need not be in its list.)");
         story(openSchools(2, 1), "pupil 0; pupil 0; draw 1 1 3 = true; draw 0 1 3 = false; wish 0 1; wish 1 1; run = 1",
                 "seat 1 0 = 1; envies 0 1 = false");
@@ -273,6 +276,11 @@ public final class SentenceTest extends Story {
                 all("held 0 1 #", "1 0 -1"), "answer 2 1; answer 3 1", all("held 0 0 #", "4 1 1"), "over 3 0",
                         "appeal 3 0",
                 all("held 0 0 #", "4 1 1"), "answer 1 2", all("held 0 0 #", "4 0 -1"));
+        sentence("for one kind this one is the last, for another that one");
+        story("school; kind 0 2 1 2 -1; school; kind 1 2 2 1 -1; kind 1 2 1 2 -1; pupil 1; pupil 2; pupil 1; pupil 2",
+                "wish 0 1; wish 1 1; wish 2 1; wish 3 1; draw 3 1 0; draw 2 1 1; draw 0 1 2; draw 1 0 5; run = 4",
+                "held 1 0 2 = 1; held 1 1 2 = 0; appeal 1 3; held 1 0 2 = 1; appeal 3 1; held 1 0 2 = 3",
+                "appeal 2 2; held 1 1 2 = 2; appeal 0 2; held 1 1 2 = 0; held 0 0 2 = -1");
         Document.quote("NONE if there is none such or no such w.");
         story(TWO_SEATS, all("held 0 1 #", "-1 -1 -1"), all("held 2 0 #", "-1 -1 -1"), "run; held 0 0 3 = -1",
                 "held 0 0 -1 = -1; held 0 -1 1 = -1; held -1 0 1 = -1; held 2 0 1 = -1; held 0 1 1 = -1");
@@ -307,7 +315,8 @@ public final class SentenceTest extends Story {
                 "appeal 2 3", envy("false false"), "envies 0 2 = false");
         Document.quote("IllegalArgumentException if there is no such pupil, or b holds no kind's seat.");
         story(made, "envies 2 0 = argument; run; envies 2 0 = false; envies 3 0 = argument; envies 0 3 = argument",
-                "envies -1 -1 = argument; over 0 0 = argument; answer 0 1; envies 2 0 = argument; over 0 0",
+                "envies -1 -1 = argument; envies 0 -1 = argument; envies 0 20 = argument; over 0 0 = argument",
+                "answer 0 1; envies 2 0 = argument; over 0 0",
                 "envies 2 0 = argument; envies 0 0 = argument; envies 0 1 = false; answer 0 2; envies 0 1 = true");
         Document.wholeSection("Promise 16: envies");
     }
@@ -328,6 +337,10 @@ public final class SentenceTest extends Story {
                 all("why 1 #", "4 4 2 0 1"), "over 1 0", all("why 1 #", "0 3 2 3 1"), "answer 1 1",
                 all("why 1 #", "4 4 2 4 1"), "stay 1 2; chain = 1", all("why 1 #", "4 0 2 3 1"), "answer 1 2",
                 all("why 1 #", "4 4 2 4 1"), all("why 0 #", "0 1 1 1 1 -1"));
+        sentence("a kind without seats is one, too, for which one is eligible");
+        story("school; kind 0 0 1 -1 -1; kind 0 1 2 -1 -1; pupil 1; wish 0 0; why 0 0 = 4; run = 0; why 0 0 = 4",
+                "appeal 0 4; why 0 0 = 2; appeal 0 2; why 0 0 = 4; stay 0 1; chain = 1; why 0 0 = 0; appeal 0 4",
+                "why 0 0 = 0; answer 0 1; why 0 0 = 2");
         Document.quote("NONE if there is no such pupil or school.");
         story(TWO_SEATS, "why 3 0 = -1; why 0 2 = -1; run; why -1 0 = -1; why 0 -1 = -1; why 3 3 = -1; why 0 0 = 0");
         Document.wholeSection("Promise 17: why");

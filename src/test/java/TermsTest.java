@@ -143,6 +143,7 @@ public final class TermsTest extends Story {
         String all = openSchools(6, 1) + everySecondLate();
         story(all, "pupil 0 = state; wish 0 2 = state; wish 19 5 = argument; seat 15 5 = 15; seat 19 5 = 3",
                 "run = 4; seat 1 0 = 5; seat 3 0 = 0; seat 5 0 = 4; seat 7 0 = 1; seat 0 0 = -1; seat 9 2 = 4");
+        story(all, "draw 19 5 999; draw 17 5 998; draw 0 5 0; run = 4; seat 17 0 = 5; seat 1 0 = 0; seat 19 2 = 4");
         story(all, "draw 19 4 999; draw 17 1 0; draw 0 5 1; draw 18 2 3; run = 4; seat 1 0 = 5; seat 3 0 = 0",
                 "seat 19 0 = 4; seat 17 0 = 1; seat 5 0 = -1; seat 0 0 = -1; seat 17 2 = 4; seat 19 2 = 3");
     }
@@ -486,6 +487,10 @@ public final class TermsTest extends Story {
                 "blocking 2 = 41; answer 4 2; blocking -1 = 2; blocking 1 = 41; stay 5 1; chain = 1; blocking -1 = 1",
                 "blocking 0 = 25; envies 3 5 = true; answer 3 1; blocking -1 = 2; blocking 0 = 25; blocking 1 = 24",
                 "blocking 2 = -1; appeal 3 0; blocking -1 = 1; blocking 0 = 25; answer 3 2; blocking -1 = 0");
+        sentence("those above number are not among whom it would choose from");
+        story("school; kind 0 1 1 -1 -1; kind 0 1 0 -1 -1; pupil 1; pupil 1; pupil 1; pupil 0", times(4, "wish # 0"),
+                "run = 2; over 2 0; blocking -1 = 0; answer 0 2; blocking -1 = 1; blocking 0 = 24; answer 2 1",
+                "blocking -1 = 2; blocking 0 = 16; blocking 1 = 24; stay 2 1; chain = 1; blocking -1 = 0");
     }
 
     private static void refusedCalls() {
