@@ -14,7 +14,7 @@ public final class TermsTest extends Story {
     private static final int[] FLAGS_OF_BAND = {8, 4, 2};
     private static final int FLAGS_OF_NONE = 1;
 
-    /** Two kinds for some, then one for nearly all, each with an order of its own. */
+    /** A kind for some and two for anybody, each with an order of its own. */
     private static final String[] KINDS = {"1 1 -1 -1", "2 2 1 0", "1 4 0 -1"};
     private static final String SEVEN_PUPILS =
             "pupil 0; pupil 1; pupil 3; pupil 2 late; pupil 4; pupil 1; pupil 0 late; " + times(7, "wish # 0");
